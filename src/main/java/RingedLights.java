@@ -638,7 +638,7 @@ public final class RingedLights {
 
     private static int firstIn(int set) {
         for (int i = 0; i < MOST_PHASES; i++) {
-            if (inSet(set, i)) {
+            if ((set >> i & 1) != 0) {
                 return i;
             }
         }
