@@ -295,7 +295,7 @@ public final class RingedLights {
         if (queue > MOST_QUEUE) {
             return refuse(TOO_MANY);
         }
-        put(now.queues, phase, queue);
+        now.putQueue(phase, queue);
         return answer(queue);
     }
 
@@ -350,7 +350,7 @@ public final class RingedLights {
         if (inSet(now.stuck, phase) == sticks) {
             return deny(IS_SO);
         }
-        now.stuck ^= bit(phase);
+        now.stuck = withBit(now.stuck, phase, sticks);
         return grant();
     }
 
@@ -517,7 +517,7 @@ public final class RingedLights {
         int least = 0;
         for (int phase = 0; phase < now.plan.phases; phase++) {
             spare.takeFrom(now);
-            put(spare.queues, phase, cell(spare.queues, phase) + 10);
+            spare.putQueue(phase, cell(spare.queues, phase) + 10);
             spare.passTicks(n);
             if (best == NONE || spare.waited < least) {
                 best = phase;
@@ -609,9 +609,7 @@ public final class RingedLights {
     }
 
     private static void copyRow(int[] from, int[] into) {
-        for (int i = 0; i < from.length && i < into.length; i++) {
-            into[i] = from[i];
-        }
+        System.arraycopy(from, 0, into, 0, Math.min(from.length, into.length));
     }
 
     private static void fillRow(int[] row, int much) {
@@ -630,6 +628,10 @@ public final class RingedLights {
 
     private static int bit(int i) {
         return i < 0 || i >= MOST_PHASES ? 0 : 1 << i;
+    }
+
+    private static int withBit(int set, int i, boolean has) {
+        return has ? set | bit(i) : set & ~bit(i);
     }
 
     private static boolean inSet(int set, int i) {
@@ -657,9 +659,16 @@ public final class RingedLights {
         final int[] breaks = new int[2 * BREAK_PARTS];
         /** The phases of ring 0 on side 0, of ring 0 on side 1, of ring 1 on side 0, of ring 1 on side 1. */
         final int[] parts = new int[4];
+        /** What the marks say of each tick, as sets, so that a tick need not look at each phase. */
+        int recalled;
+        int footRecalled;
+        int walked;
 
         void wipe() {
             phases = 0;
+            recalled = 0;
+            footRecalled = 0;
+            walked = 0;
             cycle = 0;
             offset = 0;
             fillRow(ringOf, 0);
@@ -674,6 +683,9 @@ public final class RingedLights {
             phases = other.phases;
             cycle = other.cycle;
             offset = other.offset;
+            recalled = other.recalled;
+            footRecalled = other.footRecalled;
+            walked = other.walked;
             copyRow(other.ringOf, ringOf);
             copyRow(other.sideOf, sideOf);
             copyRow(other.foes, foes);
@@ -693,7 +705,7 @@ public final class RingedLights {
             put(sideOf, phases, itsSide);
             put(parts, itsRing * 2 + itsSide, partOf(itsRing, itsSide) | bit(phases));
             for (int i = 0; i < MARKS; i++) {
-                put(marks, phases * MARKS + i, cell(USUAL_MARK, i));
+                putMark(phases, i, cell(USUAL_MARK, i));
             }
             phases++;
         }
@@ -717,6 +729,12 @@ public final class RingedLights {
 
         void putMark(int phase, int kind, int much) {
             put(marks, phase * MARKS + kind, much);
+            if (kind == RECALL) {
+                recalled = withBit(recalled, phase, much != 0);
+                footRecalled = withBit(footRecalled, phase, much == 3);
+            } else if (kind == WALK) {
+                walked = withBit(walked, phase, much > 0);
+            }
         }
 
         int breakOf(int which, int part) {
@@ -918,6 +936,7 @@ public final class RingedLights {
         final Log log = new Log();
         final int[] queues = new int[MOST_PHASES];
         final int[] letGo = new int[MOST_PHASES];
+        int queued;
         int calls;
         int footCalls;
         /** Phases called while they were green: that keeps their gap at 0 in one tick, and waits no longer. */
@@ -939,6 +958,7 @@ public final class RingedLights {
             log.takeFrom(other.log);
             copyRow(other.queues, queues);
             copyRow(other.letGo, letGo);
+            queued = other.queued;
             calls = other.calls;
             footCalls = other.footCalls;
             greenCalls = other.greenCalls;
@@ -957,6 +977,7 @@ public final class RingedLights {
             log.wipe();
             fillRow(queues, 0);
             fillRow(letGo, 0);
+            queued = 0;
             calls = 0;
             footCalls = 0;
             greenCalls = 0;
@@ -1002,8 +1023,8 @@ public final class RingedLights {
                 case 1: return cell(plan.sideOf, phase);
                 case 2: return lampOf(phase);
                 case 3: return cell(queues, phase);
-                case 4: return isCalled(phase) ? 1 : 0;
-                case 5: return isOnFoot(phase) ? 1 : 0;
+                case 4: return inSet(calledSet(), phase) ? 1 : 0;
+                case 5: return inSet(onFootSet(), phase) ? 1 : 0;
                 case 6: return cell(letGo, phase);
                 case 7: return plan.endOf(phase);
                 default: return plan.foesOf(phase);
@@ -1050,23 +1071,16 @@ public final class RingedLights {
             return queue;
         }
 
-        boolean isCalled(int phase) {
-            return inSet(calls, phase) || cell(queues, phase) > 0 || plan.markOf(phase, RECALL) != 0;
+        int calledSet() {
+            return calls | queued | plan.recalled;
         }
 
-        boolean isOnFoot(int phase) {
-            return plan.markOf(phase, WALK) > 0 && inSet(footCalls, phase)
-                    || plan.markOf(phase, RECALL) == 3;
+        int onFootSet() {
+            return footCalls & plan.walked | plan.footRecalled;
         }
 
         int askedSet() {
-            int asked = 0;
-            for (int i = 0; i < plan.phases; i++) {
-                if (isCalled(i) || isOnFoot(i)) {
-                    asked |= bit(i);
-                }
-            }
-            return asked;
+            return calledSet() | onFootSet();
         }
 
         int shownSet() {
@@ -1087,6 +1101,11 @@ public final class RingedLights {
         }
 
         // ---- what comes to it
+
+        void putQueue(int phase, int much) {
+            put(queues, phase, much);
+            queued = withBit(queued, phase, much > 0);
+        }
 
         void takeCall(int phase) {
             if (isGreenAt(phase)) {
@@ -1116,7 +1135,7 @@ public final class RingedLights {
                 drawn = (drawn * 9301 + 49297) % 233280;
                 int queue = cell(queues, i);
                 if (drawn * 60 / 233280 < plan.markOf(i, RATE) && queue < MOST_QUEUE) {
-                    put(queues, i, queue + 1);
+                    putQueue(i, queue + 1);
                 }
             }
             return (int) drawn;
@@ -1191,7 +1210,7 @@ public final class RingedLights {
             int queue = cell(queues, phase);
             ring.gap = queue > 0 || inSet(greenCalls, phase) ? 0 : ring.gap + 1;
             if (queue > 0) {
-                put(queues, phase, queue - 1);
+                putQueue(phase, queue - 1);
                 put(letGo, phase, cell(letGo, phase) + 1);
             }
             if ((plan.foesOf(phase) & askedSet()) != 0) {
@@ -1214,7 +1233,7 @@ public final class RingedLights {
             if (ring.lamp != WAITS || phase == NONE || inSet(plan.foesOf(phase), other.at)) {
                 return;
             }
-            ring.turnGreen(phase, isOnFoot(phase));
+            ring.turnGreen(phase, inSet(onFootSet(), phase));
             calls &= ~bit(phase);
             footCalls &= ~bit(phase);
             log.note(BECAME_GREEN, latestTick, phase);
@@ -1595,15 +1614,15 @@ public final class RingedLights {
         }
 
         void readMarks(int phase) {
-            int has = 0;
+            int had = 0;
             for (int i = 0; i <= MARKS && fault == 0 && kind == WORD; i++) {
                 int which = markHere();
                 if (which == NONE) {
                     fail(MISPLACED);
-                } else if ((has >> which & 1) != 0) {
+                } else if ((had >> which & 1) != 0) {
                     fail(TOLD_TWICE);
                 } else {
-                    has |= 1 << which;
+                    had |= 1 << which;
                     step();
                     plan.putMark(phase, which, takeNumber(cell(LEAST_MARK, which), cell(MOST_MARK, which)));
                 }

@@ -17,6 +17,7 @@ public final class ActTest {
         reset();
         keepAndBack();
         backTakesAllBack();
+        backToTheMidstOfABreak();
         backAcrossALoad();
         foes();
         sets();
@@ -42,7 +43,9 @@ public final class ActTest {
             Check.due("marked(2, " + mark + ")", x, x.marked(2, mark), without[mark], 0);
         }
         Check.refused("mark(0, 10, 1)", x, x.mark(0, 10, 1), 1);
+        Check.refused("mark(0, 10, 0)", x, x.mark(0, 10, 0), 1);
         Check.refused("mark(0, -1, 1)", x, x.mark(0, -1, 1), 1);
+        Check.refused("mark(0, -1, 0)", x, x.mark(0, -1, 0), 1);
         Check.refused("mark(9, 10, 1)", x, x.mark(9, 10, 1), 1);
         Check.refused("mark(0, most int, 1)", x, x.mark(0, Integer.MAX_VALUE, 1), 1);
     }
@@ -288,6 +291,30 @@ public final class ActTest {
         Check.due("the same row of numbers", all(x).equals(before), true);
     }
 
+    /** Green rings with a gap, halting walkers, a break under way, and far more events than are kept. */
+    private static void backToTheMidstOfABreak() {
+        RingedLights x = Check.of("phase 0 0 walk 2 halt 9 recall 1 yellow 1 clear 0;phase 0 1 recall 1 yellow 1 clear 0;"
+                + "phase 1 0;break 1 track 1 9 dwell 2 9 cut 0;");
+        x.call(0, true);
+        x.ask(1);
+        x.tick(6);
+        Check.due("many(9)", x.many(9), 5);
+        Check.due("ring(0, 7)", x.ring(0, 7), 3);
+        Check.due("ring(0, 4)", x.ring(0, 4), 5);
+        String before = all(x);
+        x.keep();
+        x.tick(12);
+        x.let(1);
+        x.tick(300);
+        Check.due("events beyond those kept", x.event(31, 1) > 100, true);
+        x.back();
+        Check.due("the same row of numbers", all(x).equals(before), true);
+        x.tick(1);
+        Check.due("many(9)", x.many(9), 6);
+        Check.due("ring(0, 7)", x.ring(0, 7), 4);
+        Check.due("ring(0, 4)", x.ring(0, 4), 6);
+    }
+
     private static void backAcrossALoad() {
         RingedLights x = Check.of("phase 0 0 min 7;phase 0 1;");
         x.come(1, 5);
@@ -352,6 +379,12 @@ public final class ActTest {
     }
 
     private static void setsOfOneRing() {
+        RingedLights two = Check.of("phase 0 0;phase 1 0;");
+        Check.due("sets(0): one of all", two, two.sets(0), 1, 0);
+        Check.due("sets(1): one of all", two, two.sets(1), 3, 0);
+        RingedLights one = Check.of("phase 0 0;");
+        Check.due("sets(0) of one phase", one, one.sets(0), 1, 0);
+        Check.due("sets(1) of one phase", one, one.sets(1), 1, 0);
         RingedLights x = Check.of("phase 0 0;phase 1 0;phase 0 1;");
         Check.due("sets(0)", x, x.sets(0), 2, 0);
         Check.due("sets(1)", x, x.sets(1), 3, 0);

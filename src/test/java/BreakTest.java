@@ -106,6 +106,11 @@ public final class BreakTest {
         x.tick(2);
         stage(x, 1, 4, 1);
         x.ask(0);
+        x.keep();
+        x.brakes(0, 2, 3, 2, 2, 0);
+        x.tick(1);
+        stage(x, 0, 1, 0);
+        x.back();
         x.tick(1);
         stage(x, 0, 2, 0);
         Check.event(x, 1, 3, 3, 1);
@@ -200,6 +205,13 @@ public final class BreakTest {
         x.tick(1);
         Check.ring(x, 0, 1, 0, 0, -1);
         Check.ring(x, 1, 5, 0, 1, -1);
+        x = Check.of("phase 0 0;phase 1 0;phase 1 1;phase 1 1;phase 0 1;break 0 track 0 0 dwell 16 0 cut 0;");
+        x.ask(0);
+        x.tick(1);
+        Check.ring(x, 0, 4, 0, 0, -1);
+        x.let(0);
+        x.tick(1);
+        Check.ring(x, 1, 2, 0, 0, -1);
         x = Check.of("phase 0 0;phase 1 1;break 0 track 0 0 dwell 2 0 cut 0;");
         x.ask(0);
         x.tick(1);
@@ -250,6 +262,14 @@ public final class BreakTest {
         Check.ring(x, 0, 0, 0, 5, -1, 5, 0, 2, 4);
         x.tick(1);
         Check.ring(x, 0, 0, 1, 0, 1);
+
+        // of a green cut short nothing is left in the next one
+        x = Check.of(one + "3;");
+        x.call(0, true);
+        x.tick(1);
+        x.ask(0);
+        x.tick(5);
+        Check.ring(x, 0, 1, 0, 0, -1, 0, 0, 0, 0);
 
         // the phase of the goal itself lets those on foot walk on
         x = Check.of("phase 0 0 walk 3 halt 5" + QUICK + ";phase 0 1;break 0 track 1 9 dwell 1 1 cut 0;");
@@ -320,8 +340,8 @@ public final class BreakTest {
 
     private static void brakes() {
         RingedLights x = Check.of("phase 0 0;phase 0 1;phase 1 0;");
-        Check.due("brakes", x, x.brakes(1, 5, 30, 2, 0, 20), 0);
-        int[] had = {5, 30, 2, 0, 20, 0};
+        Check.due("brakes", x, x.brakes(1, 5, 30, 2, 7, 20), 0);
+        int[] had = {5, 30, 2, 7, 20, 0};
         for (int what = 0; what < 6; what++) {
             Check.due("brake(1, " + what + ")", x, x.brake(1, what), had[what], 0);
             Check.due("brake(0, " + what + ")", x, x.brake(0, what), 0, 0);

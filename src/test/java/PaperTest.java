@@ -240,6 +240,10 @@ public final class PaperTest {
         Check.due("bestMax(0, 5)", x, x.bestMax(0, 5), 4, 0);
         Check.due("bestMax(1, 11)", x, x.bestMax(1, 11), 1, 0);
         Check.due("marked(0, 2)", x.marked(0, 2), 20);
+        x.come(0, 90);
+        Check.due("bestMax(0, 61)", x, x.bestMax(0, 61), 60, 0);
+        Check.due("bestMax(0, 100)", x, x.bestMax(0, 100), 60, 0);
+        Check.due("bestMax(0, 1)", x, x.bestMax(0, 1), 1, 0);
     }
 
     private static void cheapest() {

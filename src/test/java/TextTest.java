@@ -13,6 +13,7 @@ public final class TextTest {
         loadLooksAtItsNumber();
         loadTakesTheFirstBytes();
         loadBeginsAnew();
+        loadDuringABreak();
         loadWithAFaultKeepsTheOldCrossing();
         blanksAndTokens();
         marksTold();
@@ -117,17 +118,22 @@ public final class TextTest {
         RingedLights x = Check.of("phase 0 0;phase 0 1;cycle 40;offset 3;break 1 track 1 2 dwell 2 3 cut 4;");
         x.keep();
         x.mark(0, 6, 3);
+        x.mark(0, 5, 3);
+        x.call(0, true);
+        x.come(0, 2);
         x.call(1, false);
         x.come(1, 9);
         x.tick(7);
+        Check.due("sum(0)", x.sum(0), 2);
         x.ask(1);
         x.tick(3);
         x.call(0, false);
+        x.call(0, true);
         x.stick(0, true);
         x.stick(1, true);
         x.tick(30);
         Check.due("many(5)", x.many(5), 1);
-        Check.loadInto(x, "phase 1 1;phase 0 1;");
+        Check.loadInto(x, "phase 1 1 walk 4;phase 0 1 walk 4;");
         int[] many = {2, 0, 0, 0, 0, 0, 0, -1, 0, 0, 0, 1};
         for (int what = 0; what < many.length; what++) {
             Check.due("many(" + what + ") of the new crossing", x, x.many(what), many[what], 0);
@@ -145,6 +151,26 @@ public final class TextTest {
         Check.refused("event(0, 0)", x, x.event(0, 0), 5);
         Check.ring(x, 0, -1, 3, 0, 1);
         Check.ring(x, 1, -1, 3, 0, 0);
+    }
+
+    private static void loadDuringABreak() {
+        RingedLights x = Check.of("phase 0 0;phase 0 1;phase 1 0;phase 1 1;break 0 track 1 5 dwell 2 5 cut 0;");
+        x.ask(0);
+        x.tick(3);
+        Check.due("many(9)", x.many(9), 2);
+        Check.loadInto(x, "phase 1 1 max 7;phase 0 1;phase 1 1;");
+        Check.due("many(7)", x.many(7), -1);
+        Check.due("many(8)", x.many(8), 0);
+        Check.due("many(9)", x.many(9), 0);
+        Check.due("brake(0, 1)", x.brake(0, 1), 0);
+        int[] foes = {4, 0, 1};
+        for (int phase = 0; phase < 3; phase++) {
+            Check.due("phase(" + phase + ", 8)", x.phase(phase, 8), foes[phase]);
+        }
+        Check.loadInto(x, "phase 1 1;phase 0 0;");
+        Check.ring(x, 0, -1, 3, 0, 1);
+        Check.ring(x, 1, -1, 3, 0, -1);
+        Check.due("marked(0, 2)", x.marked(0, 2), 20);
     }
 
     private static void loadWithAFaultKeepsTheOldCrossing() {
@@ -226,6 +252,15 @@ public final class TextTest {
         Check.due("fault(0) without one", x.fault(0), 0);
         Check.due("fault(1) without one", x.fault(1), -1);
         Check.due("fault(2) without one", x.fault(2), -1);
+        // neither the lines nor what was told of an earlier text count in a later one
+        String all = "cycle 30;offset 3;break 0 track 0 0 dwell 0 0 cut 0;";
+        Check.due("load", x, Check.loadInto(x, all), 0, 0);
+        Check.due("load again", x, Check.loadInto(x, all), 0, 0);
+        Check.refused("load with a fault", x, Check.loadInto(x, all + "cycle 30;"), 9);
+        Check.due("fault(2)", x.fault(2), 3);
+        Check.refused("load with a fault", x, Check.loadInto(x, "cycle 30;cycle"), 9);
+        Check.due("fault(0)", x.fault(0), 5);
+        Check.due("fault(2)", x.fault(2), 1);
     }
 
     private static void noToken() {
@@ -253,6 +288,10 @@ public final class TextTest {
         Check.fault("p", 2, 0, 0);
         Check.fault("phases 0 0;", 2, 0, 0);
         Check.fault("phas 0 0;", 2, 0, 0);
+        Check.fault("phasz 0 0;", 2, 0, 0);
+        Check.fault("z", 2, 0, 0);
+        Check.fault("a", 2, 0, 0);
+        Check.fault("xhase 0 0;", 2, 0, 0);
         Check.fault("5;", 2, 0, 0);
         Check.fault(";", 2, 0, 0);
         Check.fault("cycle 40;;", 2, 9, 1);
@@ -273,6 +312,9 @@ public final class TextTest {
         Check.fault("offset 4 4;", 2, 9, 0);
         Check.fault("break;", 2, 5, 0);
         Check.fault("break 0 dwell 0 0;", 2, 8, 0);
+        Check.fault("break 0 0 0 dwell", 2, 8, 0);
+        Check.fault("break 0 track 0 0 0 0 cut", 2, 18, 0);
+        Check.fault("break 0 track 0 0 dwell 0 0 0;", 2, 28, 0);
         Check.fault("break 0 track dwell", 2, 14, 0);
         Check.fault("break 0 track 0 dwell", 2, 16, 0);
         Check.fault("break 0 track 0 0 cut 0;", 2, 18, 0);
