@@ -243,24 +243,7 @@ public final class ActTest {
         Check.due("many(11)", x.many(11), 0);
     }
 
-    /** All that can be asked, in one row of numbers. */
-    private static String all(RingedLights x) {
-        StringBuilder all = new StringBuilder();
-        for (int what = 0; what < 11; what++) {
-            all.append(x.many(what)).append(' ');
-            for (int which = 0; which < 8; which++) {
-                all.append(x.ring(which, what)).append(' ').append(x.phase(which, what)).append(' ');
-                all.append(x.marked(which, what)).append(' ').append(x.brake(which, what)).append(' ');
-            }
-            all.append(x.sum(what)).append('\n');
-        }
-        for (int i = 0; i < 32; i++) {
-            all.append(x.event(i, 0)).append(' ').append(x.event(i, 1)).append(' ').append(x.event(i, 2)).append('\n');
-        }
-        return all.toString();
-    }
-
-    private static void backTakesAllBack() {
+    private static RingedLights busy() {
         RingedLights x = Check.of("phase 0 0 walk 3 halt 3 rate 9;phase 0 1 split 4 walk 1;phase 1 0 min 2;cycle 30;offset 4;"
                 + "break 0 track 1 2 dwell 5 3 cut 4;");
         x.come(0, 3);
@@ -271,7 +254,11 @@ public final class ActTest {
         x.call(1, true);
         x.ask(1);
         x.tick(1);
-        String before = all(x);
+        return x;
+    }
+
+    private static void backTakesAllBack() {
+        RingedLights x = busy();
         x.keep();
         x.let(1);
         x.ask(0);
@@ -286,40 +273,47 @@ public final class ActTest {
         x.stick(0, true);
         x.tick(3);
         Check.due("many(5)", x.many(5), 1);
-        Check.due("another row of numbers", !all(x).equals(before), true);
         x.back();
-        Check.due("the same row of numbers", all(x).equals(before), true);
+        Check.due("all is as it was", Whole.of(x).equals(Whole.of(busy())), true);
     }
 
     /** Green rings with a gap, halting walkers, a break under way, and far more events than are kept. */
-    private static void backToTheMidstOfABreak() {
+    private static RingedLights inABreak() {
         RingedLights x = Check.of("phase 0 0 walk 2 halt 9 recall 1 yellow 1 clear 0;phase 0 1 recall 1 yellow 1 clear 0;"
                 + "phase 1 0;break 1 track 1 9 dwell 2 9 cut 0;");
         x.call(0, true);
         x.ask(1);
         x.tick(6);
+        return x;
+    }
+
+    private static void backToTheMidstOfABreak() {
+        RingedLights x = inABreak();
         Check.due("many(9)", x.many(9), 5);
         Check.due("ring(0, 7)", x.ring(0, 7), 3);
         Check.due("ring(0, 4)", x.ring(0, 4), 5);
-        String before = all(x);
         x.keep();
         x.tick(12);
         x.let(1);
         x.tick(300);
         Check.due("events beyond those kept", x.event(31, 1) > 100, true);
         x.back();
-        Check.due("the same row of numbers", all(x).equals(before), true);
+        Check.due("all is as it was", Whole.of(x).equals(Whole.of(inABreak())), true);
         x.tick(1);
         Check.due("many(9)", x.many(9), 6);
         Check.due("ring(0, 7)", x.ring(0, 7), 4);
         Check.due("ring(0, 4)", x.ring(0, 4), 6);
     }
 
-    private static void backAcrossALoad() {
+    private static RingedLights aheadOfALoad() {
         RingedLights x = Check.of("phase 0 0 min 7;phase 0 1;");
         x.come(1, 5);
         x.tick(9);
-        String before = all(x);
+        return x;
+    }
+
+    private static void backAcrossALoad() {
+        RingedLights x = aheadOfALoad();
         x.keep();
         Check.due("load", x, Check.loadInto(x, "phase 1 1;"), 1, 0);
         Check.due("many(11): MARKS of all stay", x.many(11), 1);
@@ -329,7 +323,7 @@ public final class ActTest {
         Check.due("many(0)", x.many(0), 1);
         Check.due("many(1)", x.many(1), 0);
         Check.due("back()", x, x.back(), 0, 0);
-        Check.due("the same row of numbers", all(x).equals(before), true);
+        Check.due("all is as it was", Whole.of(x).equals(Whole.of(aheadOfALoad())), true);
     }
 
     private static void foes() {

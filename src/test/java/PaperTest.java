@@ -18,7 +18,6 @@ public final class PaperTest {
         worst();
         worstIsAsCallsTell();
         cleared();
-        clearedWithin600();
         instep();
         paper();
         paperIsAsTicksTell();
@@ -143,24 +142,6 @@ public final class PaperTest {
         x.stick(1, true);
         x.tick(1);
         Check.refused("cleared() in a flash", x, x.cleared(), 6);
-    }
-
-    private static void clearedWithin600() {
-        StringBuilder text = new StringBuilder();
-        for (int i = 0; i < 8; i++) {
-            text.append("phase 0 0 pass 1 max 60 yellow 1 clear 0;");
-        }
-        RingedLights x = Check.of(text.toString());
-        // eight greens of 60, each 61 behind the one ahead; then 0 and 1 let go the last 39 of 99, and 2 what is left
-        int[] queues = {99, 99, 89, 60, 60, 60, 60, 60};
-        for (int phase = 0; phase < 8; phase++) {
-            x.come(phase, queues[phase]);
-        }
-        Check.due("cleared()", x, x.cleared(), 600, 0);
-        x.come(2, 1);
-        Check.refused("cleared()", x, x.cleared(), 6);
-        x.tick(1);
-        Check.due("cleared()", x, x.cleared(), 600, 0);
     }
 
     private static void instep() {
@@ -318,11 +299,14 @@ public final class PaperTest {
         Check.due("phase(2, 3)", x.phase(2, 3), 99);
     }
 
-    private static void allStaysAsItIs() {
+    private static RingedLights busyAndCalled() {
         RingedLights x = busy(CROSSINGS[3]);
         x.call(0, false);
-        StringBuilder ahead = new StringBuilder();
-        tell(x, ahead);
+        return x;
+    }
+
+    private static void allStaysAsItIs() {
+        RingedLights x = busyAndCalled();
         x.when(1);
         x.worst(1);
         x.cleared();
@@ -332,21 +316,8 @@ public final class PaperTest {
         x.paper(300, 0);
         x.bestMax(1, 50);
         x.cheapest(50);
-        StringBuilder behind = new StringBuilder();
-        tell(x, behind);
-        Check.due("the same behind all that is on paper", behind.toString().equals(ahead.toString()), true);
+        Check.due("all is as it was behind what is on paper", Whole.of(x).equals(Whole.of(busyAndCalled())), true);
         x.tick(1);
         Check.ring(x, 0, 0, 0, 3, -1, 0);
-    }
-
-    private static void tell(RingedLights x, StringBuilder all) {
-        for (int what = 0; what < 12; what++) {
-            all.append(x.many(what)).append(' ').append(x.sum(what)).append(' ');
-            for (int which = 0; which < 4; which++) {
-                all.append(x.ring(which, what)).append(' ').append(x.phase(which, what)).append(' ');
-                all.append(x.marked(which, what)).append(' ').append(x.brake(which, what)).append(' ');
-            }
-            all.append(x.event(what, 0)).append(' ').append(x.event(what, 1)).append('\n');
-        }
     }
 }
