@@ -534,6 +534,10 @@ public final class ActBoundsTest {
         x.come(0, 1);
         x.come(2, 1);
         Check.due("sets(1): two and two", x, x.sets(1), 5, 0);
+        x.keep();
+        x.come(0, 1);
+        Check.due("sets(1): three and two", x, x.sets(1), 5, 0);
+        x.back();
         x.come(1, 1);
         Check.due("sets(1): two and three", x, x.sets(1), 10, 0);
         x.come(0, 98);

@@ -218,7 +218,7 @@ public final class BreakBoundsTest {
         x.let(1);
         x.ask(0);
         x.tick(1);
-        Check.due("many(7)", x, x.many(7), 0, 0);
+        stage(x, 0, 1, 0);
         Check.event(x, 3, 3, 6, 1);
         Check.event(x, 2, 2, 6, 0);
         Check.event(x, 1, 1, 6, 1);

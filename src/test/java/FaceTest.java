@@ -22,7 +22,7 @@ public final class FaceTest {
 
     public static void main(String[] args) throws ReflectiveOperationException {
         face();
-        for (int run = 0; run < 200; run++) {
+        for (int run = 0; run < 700; run++) {
             wild(new Random(run));
         }
         Check.end();
@@ -77,7 +77,7 @@ public final class FaceTest {
         }
         Method[] methods = RingedLights.class.getMethods();
         Arrays.sort(methods, Comparator.comparing(Method::getName));
-        for (int i = 0; i < 500; i++) {
+        for (int i = 0; i < 120; i++) {
             Method method = methods[random.nextInt(methods.length)];
             if (method.getDeclaringClass() == RingedLights.class) {
                 wildCall(x, method, random);

@@ -36,6 +36,7 @@ public final class LookBoundsTest {
         sumOfTheGreatestQueue();
         sumOfShown();
         eventOfWhat();
+        eventOfEachKind();
         eventThatThereIsNot();
         eventTellsNoneFromAnAnswer();
         eventsAreTheLatest32();
@@ -480,6 +481,32 @@ public final class LookBoundsTest {
             Check.refused("event(" + i + ", 0)", x, x.event(i, 0), 1);
             Check.refused("event(2, " + i + "): 1 goes ahead of 5", x, x.event(2, i), 1);
         }
+    }
+
+    private static void eventOfEachKind() {
+        Doc.term(6, "0 a PHASE BECOMES GREEN, 1 a RING LEAVES one, 2 a BREAK begins, 3 it ends (by 0, too), 4 a FLASH, 5 it is reset; "
+                + "of each the TICK, and the PHASE (2, 3: the BREAK;");
+        RingedLights x = Check.of("phase 0 0" + QUICK + ";phase 0 1" + QUICK + ";break 1 track 0 0 dwell 2 0 cut 0;");
+        x.tick(1);
+        x.ask(1);
+        x.tick(2);
+        x.ask(0);
+        x.tick(2);
+        x.let(0);
+        x.let(1);
+        x.tick(1);
+        x.stick(1, true);
+        x.tick(1);
+        x.tick(1);
+        x.reset();
+        // green; the engine and its yellow, green; ended by the train, yellow; its end, green; a flash; a reset
+        int[][] events = {{0, 1, 0}, {2, 2, 1}, {1, 2, 0}, {0, 3, 1}, {3, 4, 1}, {2, 4, 0}, {1, 4, 1}, {3, 6, 0}, {0, 6, 0},
+            {4, 7, 0}, {5, 8, -1}};
+        for (int i = 0; i < events.length; i++) {
+            int[] event = events[events.length - 1 - i];
+            Check.event(x, i, event[0], event[1], event[2]);
+        }
+        Check.refused("event(11, 0)", x, x.event(11, 0), 5);
     }
 
     private static void eventThatThereIsNot() {

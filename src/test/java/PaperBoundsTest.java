@@ -301,6 +301,10 @@ public final class PaperBoundsTest {
         Check.due("paper(1, 1)", x, x.paper(1, 1), 99, 0);
         Check.due("paper(2, 1)", x, x.paper(2, 1), 99 + 98, 0);
         Check.due("paper(300, 0)", x, x.paper(300, 0), 99, 0);
+        x.tick(11);
+        Check.due("sum(0)", x, x.sum(0), 10, 0);
+        Check.due("paper(300, 0): without those let go ahead of it", x, x.paper(300, 0), 89, 0);
+        Check.due("paper(1, 1): without what they waited", x, x.paper(1, 1), 88, 0);
         for (int n : new int[] {0, -1, 301, Integer.MIN_VALUE, Integer.MAX_VALUE}) {
             Check.refused("paper(" + n + ", 0)", x, x.paper(n, 0), 1);
             Check.refused("paper(" + n + ", 1)", x, x.paper(n, 1), 1);
@@ -363,6 +367,16 @@ public final class PaperBoundsTest {
         Check.due("bestMax(0, 20)", x, x.bestMax(0, 20), 4, 0);
         Check.due("bestMax(0, 3): two are let go in time", x, x.bestMax(0, 3), 2, 0);
         Check.due("bestMax(1, 20)", x, x.bestMax(1, 20), 1, 0);
+        // by a MAX from 1 on they wait 115, 105, 95, 85, 75, 80, and then always 85
+        x = Check.of("phase 0 0 min 1;phase 0 1 min 1;");
+        x.come(0, 5);
+        x.come(1, 5);
+        Check.due("bestMax(0, 30): the least in the midst", x, x.bestMax(0, 30), 5, 0);
+        int[] waited = {115, 105, 95, 85, 75, 80, 85, 85};
+        for (int max = 1; max <= 8; max++) {
+            x.mark(0, 2, max);
+            Check.due("paper(30, 1) by a MAX of " + max, x, x.paper(30, 1), waited[max - 1], 0);
+        }
     }
 
     private static void bestMaxOfTheMost() {

@@ -115,7 +115,7 @@ public final class PaperTest {
                 int worst = x.worst(phase);
                 x.call(phase, false);
                 int ticks = 0;
-                while (ticks < 80 && !isGreen(x, phase)) {
+                while (ticks < 66 && !isGreen(x, phase)) {
                     for (int other = 0; other < phases; other++) {
                         if (other != phase) {
                             x.call(other, false);

@@ -2,8 +2,9 @@ import java.util.Random;
 
 /** Random runs of calls, each answer and each status held against the plain model. */
 public final class RandomRunsTest {
-    private static final int RUNS = Integer.getInteger("runs", 1500);
-    private static final int CALLS = 512;
+    private static final int RUNS = Integer.getInteger("runs", 3000);
+    /** Each with a status() behind it: an object is promised 512 calls. */
+    private static final int CALLS = 250;
 
     private final Random random;
     private final long run;

@@ -647,7 +647,7 @@ public final class TextBoundsTest {
             String ahead = textOf(0, i);
             boolean mark = i == 3 || i == 5 || i == 7;
             boolean line = i == 0 || i == 8 || i == 11 || i == 14;
-            for (String other : new String[] {"7", ";", "track", "dwell", "cut", "x", "phases", "cyclf", "mark"}) {
+            for (String other : new String[] {"7", ";", "track", "dwell", "cut", "x", "phases", "cyclf", "bffset", "nin"}) {
                 boolean fits = alike(TOKENS[i], other) || mark && other.equals(";");
                 if (!fits) {
                     Check.fault(ahead + other, 2, ahead.length(), linesIn(ahead));
@@ -714,7 +714,9 @@ public final class TextBoundsTest {
         Check.fault("cycle 40;phase 0 0;cycle", 5, 19, 2);
         Check.fault("offset 0;offset 0;", 5, 9, 1);
         Check.fault("offset 3;cycle 40;offset 999;", 5, 18, 2);
-        Check.due("each once", Check.of("offset 3;cycle 40;").many(3), 3);
+        RingedLights x = Check.of("offset 3;cycle 40;");
+        Check.due("each once", x.many(3), 3);
+        Check.due("in a later text again", x, Check.loadInto(x, "cycle 20;offset 4;phase 0 0;"), 1, 0);
     }
 
     private static void toldTwiceABreak() {
@@ -722,7 +724,8 @@ public final class TextBoundsTest {
         Check.fault("break 0" + NO_BREAK + "break 0", 5, 40, 1);
         Check.fault("break 1" + NO_BREAK + "break 01" + NO_BREAK, 5, 40, 1);
         Check.fault("break 1" + NO_BREAK + "break 0" + NO_BREAK + "break   1 x", 5, 76, 2);
-        Check.due("each once", Check.of("break 1" + NO_BREAK + "break 0" + NO_BREAK).many(0), 0);
+        RingedLights x = Check.of("break 1" + NO_BREAK + "break 0" + NO_BREAK);
+        Check.due("in a later text again", x, Check.loadInto(x, "break 0" + NO_BREAK + "break 1" + NO_BREAK), 0, 0);
     }
 
     private static void ninthPhase() {

@@ -12,6 +12,8 @@ public final class TickBoundsTest {
         startOfNone();
         greenBeginsWithNothing();
         greenTakesTheCalls();
+        leavesToNone();
+        goesToNoneThoughItHoldsNone();
         waitingRingHasNoAge();
         ticksAreNumberedFrom1();
         flashLeavesOutTheRest();
@@ -135,6 +137,36 @@ public final class TickBoundsTest {
         Check.due("phase(1, 4)", x, x.phase(1, 4), 1, 0);
         Check.due("phase(1, 5)", x, x.phase(1, 5), 1, 0);
         Check.due("call(0, true)", x, x.call(0, true), 0);
+    }
+
+    private static void leavesToNone() {
+        Doc.term(2, "A RING LEAVES TO a PHASE (or none): it is YELLOW, AGE 0, TO that, WALKING 0.");
+        RingedLights x = Check.of("phase 0 0" + QUICK + ";phase 0 1;phase 1 0 min 1 pass 1 yellow 1 clear 1;");
+        x.call(1, false);
+        x.tick(2);
+        Check.ring(x, 0, 0, 1, 0, 1, 0, 0, 0, 0, 0, 0);
+        Check.ring(x, 1, 2, 1, 0, -1, 0, 0, 0, 0, 0, 0);
+        Check.event(x, 1, 1, 2, 0);
+        Check.event(x, 0, 1, 2, 2);
+        x.tick(2);
+        Check.ring(x, 0, 1, 0, 0, -1);
+        Check.ring(x, 1, -1, 3, 0, -1);
+    }
+
+    private static void goesToNoneThoughItHoldsNone() {
+        Doc.term(2, "It GOES TO one (or none): it LEAVES TO it, if it HOLDS one, else it is TO it.");
+        RingedLights x = Check.of("phase 0 0" + QUICK + ";phase 0 1" + QUICK + ";phase 1 0" + QUICK + ";");
+        x.call(1, false);
+        x.tick(3);
+        Check.ring(x, 0, 1, 0, 0, -1);
+        Check.ring(x, 1, -1, 3, 0, -1);
+        x.call(2, false);
+        x.tick(1);
+        // ring 1 holds none: it is sent, without yellow and without an event
+        Check.ring(x, 0, 1, 1, 0, 0);
+        Check.ring(x, 1, -1, 3, 0, 2);
+        Check.event(x, 0, 1, 4, 1);
+        Check.event(x, 1, 0, 3, 1);
     }
 
     private static void waitingRingHasNoAge() {
@@ -543,6 +575,15 @@ public final class TickBoundsTest {
         x.tick(1);
         Check.ring(x, 0, 2, 1, 0, 0);
         Check.ring(x, 1, 3, 0, 7, -1, 7, 0, 0, 0, 1);
+        // so ring 1, if it has one and ring 0 has none
+        x = Check.of("phase 1 0" + QUICK + ";phase 1 0" + QUICK + ";phase 0 0" + QUICK + ";");
+        x.call(1, false);
+        x.tick(3);
+        Check.ring(x, 1, 1, 0, 0, -1);
+        x.call(0, false);
+        x.tick(1);
+        Check.ring(x, 1, 1, 1, 0, 0);
+        Check.ring(x, 0, 2, 0, 3, -1);
     }
 
     private static void waitsForAFoe() {
@@ -607,17 +648,22 @@ public final class TickBoundsTest {
 
     private static void monitorOnceAlone() {
         Doc.term(3, "and there is no FLASH, there is one: the RINGS are AT none, WAIT, AGE 0, TO none; no BREAK is begun");
-        RingedLights x = Check.of("phase 0 0;phase 0 1;");
+        RingedLights x = Check.of("phase 0 0;phase 0 1;phase 1 0;break 0 track 0 0 dwell 4 9 cut 0;");
         x.ask(0);
+        x.tick(3);
+        Check.ring(x, 1, 2, 0, 2, -1);
         x.stick(0, true);
         x.stick(1, true);
         x.tick(3);
-        Check.event(x, 0, 4, 1, 0);
-        Check.event(x, 1, 2, 1, 0);
-        Check.refused("event(2, 0)", x, x.event(2, 0), 5);
-        Check.ring(x, 0, -1, 3, 0, -1);
+        Check.event(x, 0, 4, 4, 0);
+        Check.event(x, 1, 0, 1, 2);
+        Check.event(x, 2, 2, 1, 0);
+        Check.refused("event(3, 0)", x, x.event(3, 0), 5);
+        Check.ring(x, 0, -1, 3, 0, -1, 0, 0, 0, 0, 0, 0);
+        Check.ring(x, 1, -1, 3, 0, -1, 0, 0, 0, 0, 0, 0);
         Check.due("many(7)", x, x.many(7), -1, 0);
         Check.due("many(8)", x, x.many(8), 0, 0);
+        Check.due("many(9)", x, x.many(9), 0, 0);
     }
 
     private static void waitedByAllQueues() {
@@ -790,6 +836,14 @@ public final class TickBoundsTest {
             x.run(1, 0);
         }
         Check.due("each run begins with its seed", x.sum(0) + x.sum(2), 7);
+        // the seed 9: 34, 13, 42, 40, 20, 37, 8, 36, 11
+        x = Check.of("phase 0 0 rate 12;");
+        int[] ticks = {6, 7, 9};
+        int[] came = {0, 1, 3};
+        for (int i = 0; i < 3; i++) {
+            x.run(ticks[i], 9);
+            Check.due("a draw for each phase, and no other", x.sum(0) + x.sum(2), came[i]);
+        }
     }
 
     private static void queueOf99Stays() {
