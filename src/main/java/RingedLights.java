@@ -86,8 +86,7 @@ public final class RingedLights {
     private static final int TOLD_TWICE = 5;
     private static final int NINTH_PHASE = 6;
 
-    private final byte[] tape = new byte[MOST_BYTES];
-    private final Reader reader = new Reader(tape);
+    private final Reader reader = new Reader();
     private final Crossing now = new Crossing();
     private final Crossing spare = new Crossing();
     private final Crossing firstKept = new Crossing();
@@ -553,10 +552,8 @@ public final class RingedLights {
 
     private void tapeFour(int four) {
         for (int shift = 24; shift >= 0; shift -= 8) {
-            if (taped < tape.length) {
-                tape[taped] = (byte) (four >> shift);
-                taped++;
-            }
+            reader.putByte(taped, four >> shift);
+            taped++;
         }
     }
 
@@ -1425,7 +1422,7 @@ public final class RingedLights {
         }
     }
 
-    /** Reads the text of a crossing, and stops at its first fault. */
+    /** Has the tape, reads the text of a crossing off it, and stops at its first fault. */
     static final class Reader {
         private static final int END = 0;
         private static final int WORD = 1;
@@ -1437,7 +1434,7 @@ public final class RingedLights {
         private static final int CYCLE_TOLD = 4;
         private static final int OFFSET_TOLD = 8;
 
-        final byte[] text;
+        final byte[] tape = new byte[MOST_BYTES];
         final Plan plan = new Plan();
         int end;
         int place;
@@ -1450,13 +1447,15 @@ public final class RingedLights {
         int faultPlace;
         int faultLine;
 
-        Reader(byte[] text) {
-            this.text = text;
+        void putByte(int i, int much) {
+            if (i >= 0 && i < tape.length) {
+                tape[i] = (byte) much;
+            }
         }
 
         void readText(int length) {
             plan.wipe();
-            end = Math.min(length, text.length);
+            end = Math.min(length, tape.length);
             place = 0;
             lines = 0;
             told = 0;
@@ -1512,10 +1511,10 @@ public final class RingedLights {
         }
 
         int kindAt(int i) {
-            if (i < 0 || i >= end || i >= text.length) {
+            if (i < 0 || i >= end || i >= tape.length) {
                 return END;
             }
-            int sign = text[i];
+            int sign = tape[i];
             if (sign >= 'a' && sign <= 'z') {
                 return WORD;
             }
@@ -1529,7 +1528,7 @@ public final class RingedLights {
         }
 
         int signAt(int i) {
-            return i >= 0 && i < text.length ? text[i] : NONE;
+            return i >= 0 && i < tape.length ? tape[i] : NONE;
         }
 
         boolean isWord(String word) {

@@ -193,6 +193,11 @@ public final class LanguageTest {
             if (method() != null) {
                 against("this project: objects are made with their owner alone", tree);
             }
+            for (Tree argument : tree.getArguments()) {
+                if (argument.getKind() != Tree.Kind.INT_LITERAL) {
+                    against("rule 12: an object hands out nothing of itself while it is made", argument);
+                }
+            }
             return super.visitNewClass(tree, none);
         }
 
